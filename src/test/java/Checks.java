@@ -1,5 +1,10 @@
 /** Counts the answers that are not due, and prints them. */
 final class Checks {
+    static final int INVALID = -2000000001;
+    static final int NOT_POSSIBLE = -2000000002;
+    static final int LIMIT = -2000000003;
+    static final int NOT_FOUND = -2000000004;
+
     private final String test;
     private int asked;
     private int wrong;
@@ -24,6 +29,21 @@ final class Checks {
         System.out.println(test + ": " + asked + " answers, " + wrong + " wrong");
         if (wrong != 0) {
             System.exit(1);
+        }
+    }
+
+    static VillageHall hallWithHirers(int hirers) {
+        VillageHall hall = new VillageHall();
+        for (int made = 0; made < hirers; made++) {
+            hall.addHirer();
+        }
+        return hall;
+    }
+
+    static void write(VillageHall hall, String text) {
+        hall.clearText();
+        for (int index = 0; index < text.length(); index++) {
+            hall.type(text.charAt(index));
         }
     }
 }
