@@ -92,7 +92,7 @@ public final class VillageHall {
         if (books.hirers >= MOST_HIRERS) {
             return LIMIT_REACHED;
         }
-        history.record(books);
+        history.save(books);
         books.hirers++;
         return books.hirers - 1;
     }
@@ -128,7 +128,7 @@ public final class VillageHall {
         if (books.paid[hirer] + amount > MOST_PAID) {
             return LIMIT_REACHED;
         }
-        history.record(books);
+        history.save(books);
         books.credit(hirer, amount, PAYMENTS);
         return books.charged[hirer] - books.paid[hirer];
     }
@@ -137,7 +137,7 @@ public final class VillageHall {
         if (what < 0 || what >= SETTINGS || value < 0 || value > SETTING_AT_MOST[what]) {
             return INVALID_ARGUMENT;
         }
-        history.record(books);
+        history.save(books);
         int previous = books.settings[what];
         books.settings[what] = value;
         return previous;
@@ -164,7 +164,7 @@ public final class VillageHall {
         if (books.isFull()) {
             return LIMIT_REACHED;
         }
-        history.record(books);
+        history.save(books);
         return books.make(wish);
     }
 
@@ -209,7 +209,7 @@ public final class VillageHall {
         if (hire.stateOf(index) != PLANNED) {
             return NOT_POSSIBLE;
         }
-        history.record(books);
+        history.save(books);
         int refund = hire.refundOf(index, books.day);
         hire.cancelled |= 1 << index;
         books.credit(hire.hirer, refund, REFUNDS);
@@ -273,7 +273,7 @@ public final class VillageHall {
         if (books.day + days > LAST_PRESENT_DAY) {
             return LIMIT_REACHED;
         }
-        history.record(books);
+        history.save(books);
         int held = 0;
         for (int gone = 0; gone < days; gone++) {
             held += books.passDay();
@@ -336,7 +336,7 @@ public final class VillageHall {
         if (lent.hire != NONE || lastPlanned == NONE || (found.rooms >> lent.room & 1) == 0) {
             return NOT_POSSIBLE;
         }
-        history.record(books);
+        history.save(books);
         lent.hire = hire;
         lent.due = lastPlanned + books.settings[DAYS_FOR_KEYS];
         return lent.due;
@@ -350,7 +350,7 @@ public final class VillageHall {
         if (back.hire == NONE) {
             return NOT_POSSIBLE;
         }
-        history.record(books);
+        history.save(books);
         int late = back.daysLate(books.day);
         back.hire = NONE;
         return late;
@@ -393,7 +393,7 @@ public final class VillageHall {
         if (hire.faults >= MOST_FAULTS) {
             return LIMIT_REACHED;
         }
-        history.record(books);
+        history.save(books);
         int cost = hire.costOfFault(kind);
         int fromDeposit = books.takeFromDeposit(hire, cost, KEPT_FOR_FAULTS);
         hire.addFault(kind, session, cost, fromDeposit);
@@ -416,7 +416,7 @@ public final class VillageHall {
         if (found.settled || found.plannedSessions() > 0 || books.keysFor(hire) > 0) {
             return NOT_POSSIBLE;
         }
-        history.record(books);
+        history.save(books);
         return books.giveDepositBack(found);
     }
 
@@ -454,7 +454,7 @@ public final class VillageHall {
         if (trial.reason != NO_FAULT) {
             return NOT_POSSIBLE;
         }
-        history.record(books);
+        history.save(books);
         books.copyFrom(trial.books);
         return trial.entered;
     }
@@ -641,14 +641,14 @@ public final class VillageHall {
             return ahead >= 7 ? shareOf(index) / 2 : 0;
         }
 
-        /** The index of the session of a day that is not cancelled; there is at most one, as intervals are 1 or more. */
+        /** The index of the session of a day, if it is not cancelled; a day has at most one. */
         int indexOn(int day) {
             int ahead = day - firstDay;
             if (interval < 1 || ahead < 0 || ahead % interval != 0) {
                 return NONE;
             }
             int index = ahead / interval;
-            return index < sessions && stateOf(index) != CANCELLED ? index : NONE;
+            return index < sessions && (cancelled >> index & 1) == 0 ? index : NONE;
         }
 
         boolean isOn(int day) {
@@ -1041,7 +1041,7 @@ public final class VillageHall {
             }
         }
 
-        void record(Books books) {
+        void save(Books books) {
             if (kept >= states.length) {
                 dropOldest();
             }

@@ -6,6 +6,7 @@ public final class KeyTest {
         lend();
         lendNotPossible();
         dueDays();
+        undoRestoresDueDays();
         bringBack();
         key();
         lateFees();
@@ -64,6 +65,19 @@ public final class KeyTest {
         hall.set(7, 0);
         hall.pass(10);
         due("today's session is planned", hall.lend(4, 0), 10);
+    }
+
+    private static void undoRestoresDueDays() {
+        VillageHall hall = Checks.hallWithHirers(2);
+        hall.hire(0, 1, 3, 1012, 1, 1);
+        hall.hire(1, 1, 9, 1012, 1, 1);
+        hall.lend(0, 0);
+        hall.bringBack(0);
+        due("lent again", hall.lend(0, 1), 11);
+        hall.undo();
+        hall.undo();
+        due("the hire of before", hall.key(0, 2), 0);
+        due("the due day of before", hall.key(0, 3), 5);
     }
 
     private static void bringBack() {

@@ -196,7 +196,8 @@ public final class RandomRunsTest {
         int hours = hours();
         int sessions = below(3) == 0 ? 1 : pick(1, 20);
         int interval = below(5) == 0 ? pick(1, 60) : pick(1, Math.max(1, year / 10));
-        return same("hire(" + hirer + ", " + rooms + ", " + day + ", " + hours + ", " + sessions + ", " + interval + ")",
+        String call = "hire(" + hirer + ", " + rooms + ", " + day + ", " + hours + ", " + sessions + ", " + interval + ")";
+        return same(call,
                 hall.hire(hirer, rooms, day, hours, sessions, interval),
                 plain.hire(hirer, rooms, day, hours, sessions, interval));
     }

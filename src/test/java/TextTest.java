@@ -16,6 +16,7 @@ public final class TextTest {
         enterNothing();
         enterAndUndo();
         textFaultArguments();
+        clearedCharactersAreGone();
         CHECKS.end();
     }
 
@@ -232,5 +233,18 @@ public final class TextTest {
         hall.type('x');
         due("textFault(2) with a fault", hall.textFault(2), Checks.INVALID);
         due("textFault(MAX)", hall.textFault(Integer.MAX_VALUE), Checks.INVALID);
+    }
+
+    private static void clearedCharactersAreGone() {
+        VillageHall hall = Checks.hallWithHirers(1);
+        Checks.write(hall, "0:1@2-3/h;0:1@2-3/h;");
+        due("a clash", hall.textFault(1), 4);
+        hall.clearText();
+        due("an empty text has no fault", hall.textFault(1), Checks.NOT_FOUND);
+        due("and can be entered", hall.enter(), 0);
+        Checks.write(hall, "0:1@2-3/h");
+        due("the mark of before does not count", hall.textFault(1), 1);
+        Checks.write(hall, "0:1@2-3/h;");
+        due("nor the hire behind it", hall.enter(), 1);
     }
 }
