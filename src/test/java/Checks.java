@@ -25,6 +25,10 @@ final class Checks {
         due(what, holds ? 1 : 0, 1);
     }
 
+    int asked() {
+        return asked;
+    }
+
     void end() {
         System.out.println(test + ": " + asked + " answers, " + wrong + " wrong");
         if (wrong != 0) {

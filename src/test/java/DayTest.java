@@ -136,43 +136,44 @@ public final class DayTest {
 
     /** Each change, then undo: all that the calls tell must be as it was before. */
     private static void undoOfEachChange() {
-        for (int change = 0; change < 11; change++) {
-            VillageHall hall = Checks.hallWithHirers(2);
-            hall.hire(0, 3, 0, 1012, 3, 7);
-            hall.lend(0, 0);
-            hall.pass(1);
-            hall.hire(1, 4, 1, 1012, 1, 1);
-            hall.cancel(20);
-            hall.report(0, 0);
-            Checks.write(hall, "0:9@9-10/hx3+1;");
-            String before = Telling.of(hall);
-            int answer = Telling.change(hall, change);
-            CHECKS.isTrue("the change " + change + " is possible", answer >= 0);
-            CHECKS.isTrue("the change " + change + " shows", !Telling.of(hall).equals(before));
-            due("undo of the change " + change, hall.undo(), 3);
-            CHECKS.isTrue("all is as before the change " + change, Telling.of(hall).equals(before));
+        String before = Telling.of(Scenes::busy);
+        for (int change = 0; change < Scenes.CHANGES; change++) {
+            int which = change;
+            String name = Scenes.CHANGE_NAMES[change];
+            CHECKS.isTrue(name + " is possible", Scenes.change(Scenes.busy(), change) >= 0);
+            CHECKS.isTrue(name + " shows", !Telling.of(() -> busyAfter(which, false)).equals(before));
+            CHECKS.isTrue("all is as before " + name, Telling.of(() -> busyAfter(which, true)).equals(before));
         }
     }
 
+    private static VillageHall busyAfter(int change, boolean undone) {
+        VillageHall hall = Scenes.busy();
+        Scenes.change(hall, change);
+        if (undone) {
+            due("undo of " + Scenes.CHANGE_NAMES[change], hall.undo(), 3);
+        }
+        return hall;
+    }
+
     private static void refusedCallsChangeNothing() {
-        VillageHall hall = Checks.hallWithHirers(1);
-        hall.hire(0, 1, 0, 1012, 2, 5);
-        hall.pass(1);
-        Checks.write(hall, "0:5@11-13/h;");
-        String before = Telling.of(hall);
-        hall.hire(0, 1, 5, 1112, 1, 1);
+        CHECKS.isTrue("refused calls change nothing",
+                Telling.withHistory(() -> afterRefusedCalls()).equals(Telling.withHistory(Scenes::busy)));
+    }
+
+    private static VillageHall afterRefusedCalls() {
+        VillageHall hall = Scenes.busy();
+        hall.hire(0, 1, 7, 1112, 1, 1);
         hall.hire(0, 1, 0, 1112, 1, 1);
         hall.cancel(0);
-        hall.lend(1, 0);
-        hall.bringBack(0);
-        hall.report(1, 0);
-        hall.report(0, 1);
+        hall.lend(5, 0);
+        hall.bringBack(1);
+        hall.report(2, 0);
+        hall.report(60, 4);
         hall.settle(0);
-        hall.enter();
         hall.pay(0, 0);
         hall.set(4, 4);
         hall.pass(0);
-        CHECKS.isTrue("refused calls change nothing", Telling.of(hall).equals(before));
-        due("states", hall.count(7), 3);
+        hall.type(127);
+        return hall;
     }
 }
